@@ -601,7 +601,8 @@ public final class RuledTables {
         int numberTables(Groups groups) {
             int tables = 0;
             for (int i = 0; i < count; i++) {
-                boolean makesTable = groups.firstOf(i) == i
+                boolean makesTable = tables < MOST_TABLES
+                    && groups.firstOf(i) == i
                     && countPlaces(i, ACROSS, groups) > 1
                     && countPlaces(i, DOWN, groups) > 1;
                 if (makesTable) {

@@ -9,6 +9,7 @@ public final class HeadingsTest {
         twoRowsOfHeads();
         noPlainRow();
         onlyTheLastRowIsPlain();
+        wideAtOneEnd();
         eachOnce();
         refused();
         images();
@@ -90,6 +91,21 @@ public final class HeadingsTest {
         headingsAre("last row plain", x, 1, 0, 1);
     }
 
+    /** Only the first cell of the first row, or only the last one, is wide. */
+    private static void wideAtOneEnd() {
+        for (int begin = 0; begin <= 60; begin += 60) {
+            RuledTables x = new RuledTables();
+            box(x, 0, 0, 90, 90);
+            x.draw(0, 20, 0, 90);
+            x.draw(0, 40, 0, 90);
+            x.draw(0, 60, 0, 90);
+            x.draw(1, 30, begin == 0 ? 20 : 0, 90);
+            x.draw(1, 60, begin == 0 ? 0 : 20, 90);
+            DUE.is("wide at one end: heads", x.table(0, 5), 2);
+            headingsAre("wide at one end", x, 1, begin == 0 ? 0 : 1, 3);
+        }
+    }
+
     /** A cell goes round another one, which a rule at its left holds: it is above and below that in one column. */
     private static void eachOnce() {
         RuledTables x = new RuledTables();
@@ -147,7 +163,10 @@ public final class HeadingsTest {
             DUE.is("restored: told " + what, x.told(what), due[what]);
         }
         DUE.is("restored: word", x.word(0, 2), 30);
-        DUE.is("restored: piece", x.piece(0, 3), 50);
+        DUE.is("restored: way", x.piece(0, 0), 0);
+        DUE.is("restored: to", x.piece(0, 3), 50);
+        DUE.is("restored: the last one", x.piece(3, 1), 50);
+        DUE.is("restored: no more", x.piece(4, 0), RuledTables.UNKNOWN);
         x.draw(1, 30, 10, 50);
         DUE.is("an image stays as it was", x.restore(1), 1);
         DUE.is("an image stays as it was: pieces", x.told(0), 4);

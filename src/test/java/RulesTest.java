@@ -87,6 +87,9 @@ public final class RulesTest {
         DUE.is("from", x.rule(0, 2), 5);
         DUE.is("to", x.rule(0, 3), 30);
         DUE.is("pieces", x.rule(0, 4), 3);
+        x.draw(1, 33, 15, 30);
+        DUE.is("longer yet", x.rule(0, 1), 33);
+        x.erase(3);
         x.erase(0);
         DUE.is("30 and 32 are two now", x.told(2), 2);
         DUE.is("first piece counts anew", x.rule(0, 5), 0);
@@ -194,17 +197,40 @@ public final class RulesTest {
         onePlaceIsNotEnough();
     }
 
+    /** A rule of one way at 20, two rules of the other way, then one more at 20, and one at another place. */
     private static void onePlaceIsNotEnough() {
+        for (int way = 0; way < 2; way++) {
+            RuledTables x = new RuledTables();
+            x.draw(way, 20, 10, 50);
+            x.draw(1 - way, 10, 20, 90);
+            x.draw(1 - way, 50, 20, 90);
+            x.draw(1 - way, 70, 20, 90);
+            DUE.is("one rule of way " + way, x.told(3), 0);
+            x.draw(way, 20, 60, 80);
+            x.draw(way, 40, 60, 80);
+            DUE.is("two places, but not together", x.told(3), 0);
+            x.set(1, 9);
+            x.set(2, 5);
+            DUE.is("two rules lie at 20", x.told(2), 6);
+            DUE.is("nor here", x.told(3), 0);
+            x.draw(way, 60, 40, 80);
+            DUE.is("together now", x.told(3), 1);
+            DUE.is("all but one", x.table(0, 3), 7);
+        }
+        twoRulesAtOnePlace();
+    }
+
+    private static void twoRulesAtOnePlace() {
         RuledTables x = new RuledTables();
-        x.draw(0, 20, 10, 20);
-        x.draw(0, 20, 40, 50);
-        x.draw(0, 30, 10, 50);
-        x.draw(1, 10, 20, 30);
-        x.draw(1, 50, 20, 30);
-        DUE.is("two places", x.told(3), 1);
-        x.erase(2);
-        x.draw(1, 30, 10, 60);
+        x.set(2, 5);
+        x.draw(0, 20, 10, 48);
+        x.draw(0, 20, 52, 90);
+        x.draw(1, 10, 20, 60);
+        x.draw(1, 50, 20, 60);
+        DUE.is("both cross that between them", x.rule(3, 6), 2);
         DUE.is("two rules across lie at one place", x.told(3), 0);
+        x.draw(0, 40, 10, 50);
+        DUE.is("at two", x.told(3), 1);
     }
 
     private static void refused() {

@@ -240,22 +240,22 @@ public final class TablesTest {
         x.erase(3);
         x.draw(1, 60, 0, 60);
         cellIs("broken", x, 0, 0, 0, 2, 2, 3, 1, 0);
-        openAtEachEdge();
+        openAtEachEdge(new int[] {1, 3, 2, 3}, 10, 40);
+        openAtEachEdge(new int[] {0, 2, 0, 1}, 40, 70);
     }
 
-    private static void openAtEachEdge() {
-        for (int gone = 0; gone < 4; gone++) {
+    /** Of four cells, one is open if an edge is drawn only from one place to another one. */
+    private static void openAtEachEdge(int[] open, int from, int to) {
+        for (int edge = 0; edge < 4; edge++) {
             RuledTables x = new RuledTables();
-            int[][] pieces = {{0, 10, 10, 70}, {0, 70, 10, 70}, {1, 10, 10, 70}, {1, 70, 10, 70}};
+            int[][] pieces = {{0, 10}, {0, 70}, {1, 10}, {1, 70}};
             for (int p = 0; p < 4; p++) {
-                int to = p == gone ? 40 : pieces[p][3];
-                x.draw(pieces[p][0], pieces[p][1], pieces[p][2], to);
+                x.draw(pieces[p][0], pieces[p][1], p == edge ? from : 10, p == edge ? to : 70);
             }
             x.draw(0, 40, 10, 70);
             x.draw(1, 40, 10, 70);
-            int[] open = {1, 3, 2, 3};
             for (int cell = 0; cell < 4; cell++) {
-                DUE.is("edge " + gone + ", kind of " + cell, x.cell(0, cell, 5), cell == open[gone] ? 2 : 0);
+                DUE.is("edge " + edge + ", kind of " + cell, x.cell(0, cell, 5), cell == open[edge] ? 2 : 0);
             }
             DUE.is("whole ones", x.table(0, 7), 3);
         }

@@ -65,6 +65,8 @@ public final class WordsTest {
         }
         x.strike(1);
         DUE.is("numbers go down", x.read(0, 0, 2), 1);
+        DUE.is("one less in the cell", x.cell(0, 0, 6), 4);
+        DUE.is("the first one stays", x.read(0, 0, 3), 0);
     }
 
     private static void middlesAreExact() {
