@@ -842,17 +842,17 @@ public final class RuledTables {
 
         private void markOpen() {
             for (int column = 0; column < columns; column++) {
-                openUnlessRuled(ACROSS, 0, column, cellOf(0, column));
-                openUnlessRuled(ACROSS, rows, column, cellOf(rows - 1, column));
+                openUnless(hasRuled(ACROSS, 0, column), cellOf(0, column));
+                openUnless(hasRuled(ACROSS, rows, column), cellOf(rows - 1, column));
             }
             for (int row = 0; row < rows; row++) {
-                openUnlessRuled(DOWN, row, 0, cellOf(row, 0));
-                openUnlessRuled(DOWN, row, columns, cellOf(row, columns - 1));
+                openUnless(hasRuled(DOWN, row, 0), cellOf(row, 0));
+                openUnless(hasRuled(DOWN, row, columns), cellOf(row, columns - 1));
             }
         }
 
-        private void openUnlessRuled(int way, int row, int column, int cell) {
-            if (hasCell(cell) && !hasRuled(way, row, column)) {
+        private void openUnless(boolean isRuled, int cell) {
+            if (!isRuled && hasCell(cell)) {
                 cells[KIND][cell] = OPEN;
             }
         }
