@@ -1,13 +1,23 @@
 /** Tells every call whose answer is not the one that is due. */
 final class Due {
+    /** Numbers that no call takes; some of them times 2, 4 or 8 wrap around to a number that is taken. */
+    static final int[] FAR = {Integer.MIN_VALUE, Integer.MIN_VALUE + 1, -(1 << 30), -1, 1 << 29, 1 << 30,
+        Integer.MAX_VALUE - 1, Integer.MAX_VALUE};
+
     private int asked;
     private int wrong;
+    private String sentence = "";
+
+    /** The sentence of the document that the calls from here on are due by. */
+    void says(String words) {
+        sentence = "\"" + words + "\" ";
+    }
 
     void is(String call, int got, int want) {
         asked++;
         if (got != want) {
             wrong++;
-            System.out.println(call + " answered " + got + ", due is " + want);
+            System.out.println(sentence + call + " answered " + got + ", due is " + want);
         }
     }
 

@@ -1,7 +1,6 @@
 /** Promises 19 to 22: headings, images, and what is told. */
 public final class HeadingsTest {
     private static final Due DUE = new Due();
-    private static final int[] FAR = {Integer.MIN_VALUE, -1, Integer.MAX_VALUE};
 
     public static void main(String[] args) {
         oneRowHasNone();
@@ -30,7 +29,7 @@ public final class HeadingsTest {
             DUE.is(name + ": heading " + column + ", " + k, x.heading(0, column, k), due[k]);
         }
         DUE.is(name + ": no more of " + column, x.heading(0, column, due.length), RuledTables.NONE);
-        for (int far : FAR) {
+        for (int far : Due.FAR) {
             DUE.is(name + ": k far", x.heading(0, column, far), RuledTables.NONE);
         }
     }
@@ -131,7 +130,7 @@ public final class HeadingsTest {
         DUE.is("image 2", x.image(2), RuledTables.OUTSIDE);
         DUE.is("restore 2", x.restore(2), RuledTables.OUTSIDE);
         DUE.is("told 8", x.told(8), RuledTables.OUTSIDE);
-        for (int far : FAR) {
+        for (int far : Due.FAR) {
             DUE.is("heading table far", x.heading(far, 0, 0), RuledTables.UNKNOWN);
             DUE.is("heading column far", x.heading(0, far, 0), RuledTables.UNKNOWN);
             DUE.is("image far", x.image(far), RuledTables.OUTSIDE);

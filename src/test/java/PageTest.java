@@ -1,7 +1,6 @@
 /** Promises 1 to 8: a new object, and the page. */
 public final class PageTest {
     private static final Due DUE = new Due();
-    private static final int[] FAR = {Integer.MIN_VALUE, -1, Integer.MAX_VALUE};
 
     public static void main(String[] args) {
         newObject();
@@ -41,7 +40,7 @@ public final class PageTest {
             DUE.is("told 0", x.told(5 + what), 0);
         }
         DUE.is("set 3", x.set(3, 0), RuledTables.OUTSIDE);
-        for (int far : FAR) {
+        for (int far : Due.FAR) {
             DUE.is("set what far", x.set(far, 0), RuledTables.OUTSIDE);
             DUE.is("set n far", x.set(0, far), RuledTables.OUTSIDE);
         }
@@ -74,7 +73,7 @@ public final class PageTest {
         for (int[] w : wrong) {
             DUE.is("draw refused", x.draw(w[0], w[1], w[2], w[3]), RuledTables.OUTSIDE);
         }
-        for (int far : FAR) {
+        for (int far : Due.FAR) {
             DUE.is("draw way far", x.draw(far, 0, 0, 1), RuledTables.OUTSIDE);
             DUE.is("draw at far", x.draw(0, far, 0, 1), RuledTables.OUTSIDE);
             DUE.is("draw from far", x.draw(0, 0, far, 1), RuledTables.OUTSIDE);
@@ -98,7 +97,7 @@ public final class PageTest {
         DUE.is("its rule is gone", x.told(2), 2);
         DUE.is("erase the last", x.erase(1), 1);
         DUE.is("erase the only one", x.erase(0), 0);
-        for (int far : FAR) {
+        for (int far : Due.FAR) {
             DUE.is("erase far", x.erase(far), RuledTables.UNKNOWN);
         }
     }
@@ -114,7 +113,7 @@ public final class PageTest {
             DUE.is("rule of piece " + p, x.piece(p, 4), rules[p]);
         }
         DUE.is("piece what 5", x.piece(0, 5), RuledTables.OUTSIDE);
-        for (int far : FAR) {
+        for (int far : Due.FAR) {
             DUE.is("piece what far", x.piece(0, far), RuledTables.OUTSIDE);
             DUE.is("UNKNOWN is before OUTSIDE", x.piece(far, far), RuledTables.UNKNOWN);
         }
@@ -128,7 +127,7 @@ public final class PageTest {
         for (int[] w : wrong) {
             DUE.is("write refused", x.write(w[0], w[1], w[2], w[3]), RuledTables.OUTSIDE);
         }
-        for (int far : FAR) {
+        for (int far : Due.FAR) {
             DUE.is("write left far", x.write(far, 0, 1, 1), RuledTables.OUTSIDE);
             DUE.is("write top far", x.write(0, far, 1, 1), RuledTables.OUTSIDE);
             DUE.is("write right far", x.write(0, 0, far, 1), RuledTables.OUTSIDE);
@@ -162,7 +161,7 @@ public final class PageTest {
         DUE.is("told words", x.told(1), 2);
         DUE.is("strike 1", x.strike(1), 1);
         DUE.is("strike the only one", x.strike(0), 0);
-        for (int far : FAR) {
+        for (int far : Due.FAR) {
             DUE.is("strike far", x.strike(far), RuledTables.UNKNOWN);
         }
     }
@@ -185,7 +184,7 @@ public final class PageTest {
         }
         DUE.is("loose", x.told(4), 4);
         DUE.is("word what 6", x.word(0, 6), RuledTables.OUTSIDE);
-        for (int far : FAR) {
+        for (int far : Due.FAR) {
             DUE.is("word what far", x.word(0, far), RuledTables.OUTSIDE);
             DUE.is("UNKNOWN is before OUTSIDE", x.word(far, far), RuledTables.UNKNOWN);
         }

@@ -1,7 +1,6 @@
 /** Promises 9 and 10: rules and how they cross. */
 public final class RulesTest {
     private static final Due DUE = new Due();
-    private static final int[] FAR = {Integer.MIN_VALUE, -1, Integer.MAX_VALUE};
 
     public static void main(String[] args) {
         slop();
@@ -241,7 +240,7 @@ public final class RulesTest {
         DUE.is("rule what 8", x.rule(0, 8), RuledTables.OUTSIDE);
         DUE.is("cross 2 0", x.cross(2, 0), RuledTables.UNKNOWN);
         DUE.is("cross 0 2", x.cross(0, 2), RuledTables.UNKNOWN);
-        for (int far : FAR) {
+        for (int far : Due.FAR) {
             DUE.is("rule far", x.rule(far, far), RuledTables.UNKNOWN);
             DUE.is("rule what far", x.rule(0, far), RuledTables.OUTSIDE);
             DUE.is("cross far", x.cross(far, 0), RuledTables.UNKNOWN);

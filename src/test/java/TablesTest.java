@@ -1,7 +1,6 @@
 /** Promises 11 to 15: tables, their lines, sides, fields and cells. */
 public final class TablesTest {
     private static final Due DUE = new Due();
-    private static final int[] FAR = {Integer.MIN_VALUE, -1, Integer.MAX_VALUE};
 
     public static void main(String[] args) {
         oneField();
@@ -116,7 +115,7 @@ public final class TablesTest {
             DUE.is("across " + line, x.edge(0, 0, line), across[line]);
             DUE.is("down " + line, x.edge(0, 1, line), down[line]);
         }
-        for (int far : FAR) {
+        for (int far : Due.FAR) {
             DUE.is("line far", x.edge(0, 0, far), RuledTables.NONE);
         }
     }
@@ -278,7 +277,7 @@ public final class TablesTest {
         DUE.is("cell 1", x.cell(0, 1, 9), unknown);
         DUE.is("cell of table 1", x.cell(1, 0, 0), unknown);
         DUE.is("cell what 7", x.cell(0, 0, 7), RuledTables.OUTSIDE);
-        for (int far : FAR) {
+        for (int far : Due.FAR) {
             DUE.is("table far", x.table(far, 0), unknown);
             DUE.is("table what far", x.table(0, far), RuledTables.OUTSIDE);
             DUE.is("edge table far", x.edge(far, 0, 0), unknown);

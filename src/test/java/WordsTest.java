@@ -1,7 +1,6 @@
 /** Promises 16 to 18: words that are read, lines that are missed, and mending. */
 public final class WordsTest {
     private static final Due DUE = new Due();
-    private static final int[] FAR = {Integer.MIN_VALUE, -1, Integer.MAX_VALUE};
 
     public static void main(String[] args) {
         reading();
@@ -60,7 +59,7 @@ public final class WordsTest {
         DUE.is("the other table: no more", x.read(1, 0, 1), RuledTables.NONE);
         DUE.is("words of the cell", x.cell(0, 0, 6), 5);
         DUE.is("words of the table", x.table(0, 4), 5);
-        for (int far : FAR) {
+        for (int far : Due.FAR) {
             DUE.is("read k far", x.read(0, 0, far), RuledTables.NONE);
         }
         x.strike(1);
@@ -167,7 +166,7 @@ public final class WordsTest {
             missedIs("in order", x, k, due[k]);
         }
         missedIs("no more", x, due.length, -6, -6, -6);
-        for (int far : FAR) {
+        for (int far : Due.FAR) {
             missedIs("far", x, far, -6, -6, -6);
         }
         DUE.is("mend", x.mend(0), 9 + due.length);
@@ -267,7 +266,7 @@ public final class WordsTest {
         DUE.is("missed table 1", x.missed(1, 0, 9), unknown);
         DUE.is("missed what 3", x.missed(0, 0, 3), RuledTables.OUTSIDE);
         DUE.is("mend table 1", x.mend(1), unknown);
-        for (int far : FAR) {
+        for (int far : Due.FAR) {
             DUE.is("read table far", x.read(far, 0, 0), unknown);
             DUE.is("read cell far", x.read(0, far, 0), unknown);
             DUE.is("missed table far", x.missed(far, 0, 0), unknown);
