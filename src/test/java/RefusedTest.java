@@ -99,7 +99,7 @@ public final class RefusedTest {
     }
 
     private static void onAFullPage() {
-        DUE.says("the first of these that fits: UNKNOWN .., OUTSIDE .., NO .., STATE .., FULL. They change nothing.");
+        DUE.says("the first of these that fits: UNKNOWN .., OUTSIDE .., NO .., STATE .., FULL -4. They change nothing.");
         Supplier<Run> page = RefusedTest::full;
         refused(page, OUTSIDE, "draw", 0, 20, 50, 50);
         refused(page, OUTSIDE, "draw", 2, 20, 10, 50);
@@ -112,7 +112,7 @@ public final class RefusedTest {
     }
 
     private static void onAPageFullOfWords() {
-        DUE.says("the first of these that fits: .. OUTSIDE .., FULL. They change nothing.");
+        DUE.says("the first of these that fits: .. OUTSIDE .., FULL -4. They change nothing.");
         Supplier<Run> page = RefusedTest::fullOfWords;
         refused(page, OUTSIDE, "write", 20, 20, 20, 30);
         refused(page, OUTSIDE, "write", 20, 20, 30, 100);

@@ -109,6 +109,7 @@ public final class RulesBoundsTest {
             r.is(1, "told", 2).is(51, "rule", 0, 1).is(2, "erase", 0).put("draw", way, 51, 40, 50);
             r.is(50, "rule", 0, 1).put("draw", way, 53, 50, 61).is(53, "rule", 0, 1);
             r.put("draw", way, 49, 29, 40).is(53, "rule", 0, 1).is(4, "erase", 3).is(49, "rule", 0, 1);
+            r.put("draw", way, 51, 40, 52).is(51, "rule", 0, 1).put("draw", way, 52, 47, 60).is(52, "rule", 0, 1);
         }
     }
 

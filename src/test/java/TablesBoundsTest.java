@@ -7,7 +7,10 @@ public final class TablesBoundsTest {
         twoPlacesAtLeast();
         twoRulesAtOnePlace();
         byWayOfOthers();
+        notCrossing();
         mostTables();
+        mostFields();
+        mostFieldsOfLaterTables();
         linesRising();
         mostLines();
         sidesAtTheEnd();
@@ -15,8 +18,10 @@ public final class TablesBoundsTest {
         ruledByOneRule();
         ruledByARuleOfTheTable();
         ruledAtItsLine();
+        ruledNoMore();
         oneCellOrAllApart();
         firstRowAndColumn();
+        spansBothWays();
         open();
         openBeforeBroken();
         fewerFieldsThanItSpans();
@@ -65,6 +70,18 @@ public final class TablesBoundsTest {
         }
     }
 
+    /** A rule that crosses none is of no table, be it the first one or the last one of its way. */
+    private static void notCrossing() {
+        DUE.says("RULES that CROSS, by way of others, too, make a TABLE");
+        Run r = new Run(DUE).put("draw", 0, 20, 20, 60).put("draw", 0, 20, 50, 80).put("draw", 0, 60, 20, 80);
+        r.put("draw", 1, 20, 20, 60).put("draw", 1, 80, 20, 60).put("draw", 0, 10, 40, 50).put("draw", 0, 70, 40, 50);
+        r.put("draw", 1, 10, 40, 50).put("draw", 1, 90, 40, 50).is(8, "told", 2).is(1, "told", 3).is(4, "table", 0, 3);
+        int[] tables = {NONE, 0, 0, NONE, NONE, 0, 0, NONE};
+        for (int rule = 0; rule < tables.length; rule++) {
+            r.is(tables[rule], "rule", rule, 7);
+        }
+    }
+
     private static void mostTables() {
         DUE.says("TABLES are numbered by their first RULES.");
         Run r = new Run(DUE);
@@ -75,6 +92,53 @@ public final class TablesBoundsTest {
         for (int t = 0; t < 6; t++) {
             r.row(new int[] {1, 1, 1, 4, 0, 0, 0, 1, OUTSIDE}, "table", t).is(3 + 15 * t, "edge", t, 0, 0);
             r.is(t % 2 == 0 ? 50 : 5, "edge", t, 1, 0).is(t, "rule", 2 * t, 7).is(t, "rule", 2 * t + 1, 7);
+        }
+    }
+
+    private static void mostFields() {
+        DUE.says("a FIELD is where a ROW and a COLUMN meet");
+        Run apart = new Run(DUE);
+        Run one = new Run(DUE).box(0, 0, 88, 88);
+        for (int i = 0; i < 12; i++) {
+            apart.put("draw", 0, 8 * i, 0, 88).put("draw", 1, 8 * i, 0, 88);
+            if (i > 0 && i < 11) {
+                one.put("draw", 0, 8 * i, 0, 3).put("draw", 1, 8 * i, 85, 88);
+            }
+        }
+        apart.row(new int[] {11, 11, 121, 24, 0, 1, 0, 121}, "table", 0);
+        one.row(new int[] {11, 11, 1, 24, 0, 10, 0, 1}, "table", 0).row(new int[] {0, 0, 11, 11, 121, 0, 0}, "cell", 0, 0);
+        for (int field = 0; field < 121; field++) {
+            apart.is(field, "at", 0, field / 11, field % 11);
+            one.is(0, "at", 0, field / 11, field % 11);
+        }
+        apart.row(new int[] {10, 10, 1, 1, 1, 0, 0}, "cell", 0, 120).is(UNKNOWN, "cell", 0, 121, 0);
+    }
+
+    /** Small tables come first; all pieces that are left make one more. */
+    private static void mostFieldsOfLaterTables() {
+        DUE.says("RULES that CROSS, by way of others, too, make a TABLE .. TABLES are numbered by their first RULES.");
+        for (int before = 0; before < 6; before++) {
+            int left = 24 - 4 * before;
+            for (int across : new int[] {2, left / 2, left - 2}) {
+                Run r = new Run(DUE);
+                for (int t = 0; t < before; t++) {
+                    r.box(10 * t, 0, 10 * t + 5, 5);
+                }
+                for (int i = 0; i < across; i++) {
+                    r.put("draw", 0, 10 + 4 * i, 0, 99);
+                }
+                for (int i = 0; i < left - across; i++) {
+                    r.put("draw", 1, 4 * i, 10, 99);
+                }
+                int rows = across - 1;
+                int columns = left - across - 1;
+                int heads = rows > 1 ? 1 : 0;
+                r.is(before + 1, "told", 3).is(24, "told", 0);
+                r.row(new int[] {rows, columns, rows * columns, left, 0, heads, 0, rows * columns}, "table", before);
+                r.row(new int[] {rows - 1, columns - 1, 1, 1, 1, 0, 0}, "cell", before, rows * columns - 1);
+                r.is(rows * columns - 1, "at", before, rows - 1, columns - 1);
+                r.is(1, "ruled", before, 0, rows, columns - 1).is(1, "ruled", before, 1, rows - 1, columns);
+            }
         }
     }
 
@@ -99,6 +163,9 @@ public final class TablesBoundsTest {
                 r.row(new int[] {way == 0 ? i : 0, way == 0 ? 0 : i, 1, 1, 1, 0, 0}, "cell", 0, i);
             }
             r.is(84, "edge", 0, way, 21).is(NONE, "edge", 0, way, 22).is(UNKNOWN, "cell", 0, 21, 0);
+            r.put("write", 84, 84, 85, 85).put("write", 98, 98, 99, 99).is(NONE, "word", 0, 4).is(NONE, "word", 1, 4);
+            r.put("write", 80, 80, 81, 81).is(NONE, "word", 2, 4).put("write", way == 0 ? 70 : 81, way == 0 ? 81 : 70,
+                way == 0 ? 71 : 82, way == 0 ? 82 : 71).is(20, "word", 3, 5);
         }
     }
 
@@ -175,6 +242,23 @@ public final class TablesBoundsTest {
         }
     }
 
+    /** The same object is asked before and after: each side in turn is ruled, then it is not, then it is again. */
+    private static void ruledNoMore() {
+        DUE.says("a side of a field is ruled, or it is not");
+        int[][] sides = {{0, 0, 0}, {0, 1, 0}, {1, 0, 0}, {1, 0, 1}};
+        int[] ats = {10, 50, 10, 50};
+        for (int i = 0; i < 4; i++) {
+            int way = sides[i][0];
+            Run r = new Run(DUE).box(10, 10, 50, 50);
+            for (int time = 0; time < 2; time++) {
+                r.is(1, "ruled", 0, way, sides[i][1], sides[i][2]).is(0, "cell", 0, 0, 5).is(3, "erase", time == 0 ? i : 3);
+                r.put("draw", way, ats[i], 10, 40).is(0, "ruled", 0, way, sides[i][1], sides[i][2]).is(2, "cell", 0, 0, 5);
+                r.is(3, "erase", 3).put("draw", way, ats[i], 10, 50);
+            }
+            r.is(1, "ruled", 0, way, sides[i][1], sides[i][2]).is(0, "cell", 0, 0, 5);
+        }
+    }
+
     private static void oneCellOrAllApart() {
         DUE.says("FIELDS are one CELL, if a SIDE between them is not RULED, by way of others, too.");
         Run apart = grid().row(new int[] {2, 3, 6, 7, 0, 1, 0, 6}, "table", 0);
@@ -196,6 +280,18 @@ public final class TablesBoundsTest {
         r.put("draw", 1, 60, 0, 30).is(3, "table", 0, 2).row(new int[] {0, 1, 2}, "at", 0, 0);
         r.row(new int[] {2, 2, 2}, "at", 0, 1).row(new int[] {0, 0, 2, 3, 4, 1, 0}, "cell", 0, 2);
         r.row(new int[] {0, 1, 1, 1, 1, 0, 0}, "cell", 0, 1);
+    }
+
+    /** A cell of two fields, and of two more under them that lie one column to the left. */
+    private static void spansBothWays() {
+        DUE.says("SPANS so many ROWS, COLUMNS (from the least to the greatest)");
+        Run r = new Run(DUE).box(0, 0, 80, 60).put("draw", 1, 20, 0, 60).put("draw", 1, 40, 0, 30).put("draw", 1, 60, 30, 60);
+        r.put("draw", 0, 30, 0, 40).put("draw", 0, 30, 60, 80).row(new int[] {0, 1, 2, 2}, "at", 0, 0);
+        r.row(new int[] {3, 2, 2, 4}, "at", 0, 1).row(new int[] {0, 1, 2, 3, 4, 1, 0}, "cell", 0, 2);
+        Run other = new Run(DUE).box(0, 0, 80, 60).put("draw", 1, 60, 0, 60).put("draw", 1, 20, 0, 30).put("draw", 1, 40, 30, 60);
+        other.put("draw", 1, 40, 0, 30).is(7, "told", 2).put("draw", 0, 30, 0, 20).put("draw", 0, 30, 40, 80);
+        other.row(new int[] {0, 1, 2, 3}, "at", 0, 0).row(new int[] {1, 1, 4, 5}, "at", 0, 1);
+        other.row(new int[] {0, 0, 2, 2, 3, 1, 0}, "cell", 0, 1);
     }
 
     /** Each outer side of a grid in turn is short at one of its ends, just within reach or just beyond it. */

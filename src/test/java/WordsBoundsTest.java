@@ -130,6 +130,7 @@ public final class WordsBoundsTest {
         r.put("write", 31, 40, 32, 44).put("write", 30, 41, 70, 43).put("write", 30, 30, 31, 54).put("write", 29, 39, 80, 45);
         r.put("write", 30, 42, 31, 43).row(new int[] {3, 1, 2, 0, 4, NONE}, "read", 0, 0);
         r.is(4, "strike", 1).put("write", 30, 41, 70, 43).row(new int[] {2, 1, 4, 0, 3, NONE}, "read", 0, 0);
+        r.put("write", 32, 41, 33, 43).row(new int[] {2, 1, 4, 0, 5, 3, NONE}, "read", 0, 0);
     }
 
     private static void mostWordsInACell() {
