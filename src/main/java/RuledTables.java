@@ -736,6 +736,17 @@ public final class RuledTables {
             }
             rows = lines.counts[ACROSS] - 1;
             columns = lines.counts[DOWN] - 1;
+            if (!hasRoom()) {
+                rows = 0;
+                columns = 0;
+            }
+        }
+
+        /** There is room for every table of a page; yet no field or side is counted before it is looked at. */
+        private boolean hasRoom() {
+            return rows > 0 && columns > 0
+                && rows * columns <= fieldCells.length
+                && (rows + 1) * columns + rows * (columns + 1) <= sides.length;
         }
 
         private void markSides(Rules ruling, int number, int reach) {
